@@ -199,7 +199,7 @@ public final class WheelStore {
     }
 
     public int worst(int ticks, int calls, int a, int b, int c) {
-        return game.canStand(ticks, calls, a, b, c) ? game.worstShort(ticks, calls, chargesOf(a, b, c)) : NONE;
+        return game.canStand(ticks, calls, a, b, c) ? game.worstOf(ticks, calls, chargesOf(a, b, c)) : NONE;
     }
 
     public int call(int ticks, int calls, int a, int b, int c) {
@@ -734,7 +734,7 @@ public final class WheelStore {
         }
 
         void cutTo(int n) {
-            size = n;
+            size = Math.max(0, Math.min(n, size));
         }
     }
 
@@ -939,6 +939,8 @@ public final class WheelStore {
      * is a fraction over that stiffness.
      */
     private static final class Rings {
+        private static final int CHOICES = 3;
+
         private final Cells cells;
         private final int[] heavy = new int[RINGS_MOST];
         private final int[] stiff = new int[RINGS_MOST];
@@ -950,11 +952,10 @@ public final class WheelStore {
         private final int[] pressed = new int[RINGS_MOST];
         private final int[] gaps = new int[RINGS_MOST];
         private final int[] opening = new int[RINGS_MOST];
-        private final int[] three = new int[3];
-        private final int[] trial = new int[RINGS_MOST];
-        private final int[] choice = new int[RINGS_MOST];
+        private final int[] three = new int[CHOICES];
         private int count;
         private int chosenSpeed;
+        private int chosenWay;
         private int openingVersion = NONE;
         private int chosenVersion = NONE;
 
@@ -1035,7 +1036,7 @@ public final class WheelStore {
         }
 
         int choiceOf(int fit) {
-            return chosenSpeed == NONE ? NONE : choice[fit];
+            return chosenSpeed == NONE ? NONE : choiceIn(chosenWay, fit);
         }
 
         /** BEST of three fits; the ways are tried in the order in which the first of like ones is due. */
@@ -1050,35 +1051,43 @@ public final class WheelStore {
             three[2] = c;
             load();
             chosenSpeed = NONE;
-            tryFits(0, 0, NO_SUM);
+            tryAllWays();
         }
 
-        private static final int NO_SUM = 1000;
-
-        /** With the FITS from one on still to be chosen: the sum by the best way so far. */
-        private int tryFits(int fit, int sum, int leastSum) {
-            if (fit + 1 >= count || fit >= RINGS_MOST) {
-                return weighTrial(sum, leastSum);
+        private void tryAllWays() {
+            int ways = 1;
+            for (int fit = 0; fit + 1 < count; fit++) {
+                ways *= CHOICES;
             }
-            int least = leastSum;
-            for (int i = 0; i < three.length; i++) {
-                fits[fit] = three[i];
-                trial[fit] = i;
-                least = tryFits(fit + 1, sum + three[i], least);
+            int leastSum = 0;
+            for (int way = 0; way < ways; way++) {
+                int sum = takeWay(way);
+                int speed = greatestSpeedAsLoaded();
+                if (speed > chosenSpeed || speed == chosenSpeed && sum < leastSum) {
+                    chosenSpeed = speed;
+                    chosenWay = way;
+                    leastSum = sum;
+                }
             }
-            return least;
         }
 
-        private int weighTrial(int sum, int leastSum) {
-            int speed = greatestSpeedAsLoaded();
-            if (speed < chosenSpeed || speed == chosenSpeed && sum >= leastSum) {
-                return leastSum;
-            }
-            chosenSpeed = speed;
-            for (int fit = 0; fit < RINGS_MOST; fit++) {
-                choice[fit] = trial[fit];
+        /** The fits by a way: the sum of those that say something. */
+        private int takeWay(int way) {
+            int sum = 0;
+            for (int fit = 0; fit + 1 < count; fit++) {
+                fits[fit] = three[choiceIn(way, fit)];
+                sum += fits[fit];
             }
             return sum;
+        }
+
+        /** A way tells one of three of each FIT, as a number of base 3 with FIT 0 ahead. */
+        private int choiceIn(int way, int fit) {
+            int ahead = way;
+            for (int last = count - 2; last > fit; last--) {
+                ahead /= CHOICES;
+            }
+            return ahead % CHOICES;
         }
 
         private int greatestSpeedAsLoaded() {
@@ -1220,8 +1229,12 @@ public final class WheelStore {
             }
         }
 
+        int worstOf(int ticks, int calls, int charges) {
+            return worstShort(ticks, calls, charges);
+        }
+
         /** WORST; the TICKS left bound how deep it goes. */
-        int worstShort(int ticks, int calls, int charges) {
+        private int worstShort(int ticks, int calls, int charges) {
             if (ticks <= 0 || ticks > TICKS_MOST || calls <= 0 || calls > CALLS_MOST) {
                 return 0;
             }
@@ -1520,10 +1533,16 @@ public final class WheelStore {
 
     /** WEIGHTS in HOLES against SHAKE. */
     private static final class Balance {
+        private static final int FAR_ABOVE = 1 << 30;
+
         private final Cells cells;
         private final int[] trial = new int[HOLES_MOST];
         private final int[] still = new int[HOLES_MOST];
         private int version = NONE;
+        private int count;
+        private int x;
+        private int y;
+        private int weights;
         private int least;
         private int fewestWeights;
 
@@ -1546,35 +1565,52 @@ public final class WheelStore {
                 return;
             }
             version = cells.version();
-            least = Integer.MAX_VALUE;
+            count = Math.min(cells.get(HOLES), HOLES_MOST);
+            x = cells.get(SHAKE);
+            y = cells.get(SHAKE + 1);
+            weights = 0;
+            least = FAR_ABOVE;
             fewestWeights = 0;
-            fill(0, cells.get(SHAKE), cells.get(SHAKE + 1), 0);
+            int ways = 1;
+            for (int hole = 0; hole < count; hole++) {
+                trial[hole] = 0;
+                ways *= cells.get(HOLES + 1 + hole * HOLE_CELLS + 2) + 1;
+            }
+            for (int way = 0; way < ways; way++) {
+                weigh();
+                takeNextWay();
+            }
         }
 
-        /** All ways to fill the HOLES from one on, the first by HOLES first; no deeper than HOLES there are. */
-        private void fill(int hole, int x, int y, int weights) {
-            if (hole >= cells.get(HOLES) || hole >= HOLES_MOST) {
-                weigh(x * x + y * y, weights);
-                return;
+        /** As a number is counted on, with the last HOLE behind: so the first of like ways comes first. */
+        private void takeNextWay() {
+            for (int hole = count - 1; hole >= 0; hole--) {
+                int most = cells.get(HOLES + 1 + hole * HOLE_CELLS + 2);
+                if (trial[hole] < most) {
+                    putMore(hole, 1);
+                    return;
+                }
+                putMore(hole, -most);
             }
+        }
+
+        private void putMore(int hole, int more) {
             int at = HOLES + 1 + hole * HOLE_CELLS;
-            int stepX = cells.get(at);
-            int stepY = cells.get(at + 1);
-            int most = cells.get(at + 2);
-            for (int n = 0; n <= most; n++) {
-                trial[hole] = n;
-                fill(hole + 1, x + n * stepX, y + n * stepY, weights + n);
-            }
+            trial[hole] += more;
+            x += more * cells.get(at);
+            y += more * cells.get(at + 1);
+            weights += more;
         }
 
-        private void weigh(int off, int weights) {
+        private void weigh() {
+            int off = x * x + y * y;
             if (off > least || off == least && weights >= fewestWeights) {
                 return;
             }
             least = off;
             fewestWeights = weights;
-            for (int i = 0; i < HOLES_MOST; i++) {
-                still[i] = trial[i];
+            for (int hole = 0; hole < count; hole++) {
+                still[hole] = trial[hole];
             }
         }
     }
@@ -1583,6 +1619,8 @@ public final class WheelStore {
     private static final class Inspection {
         private final Cells cells;
         private final long[][] chances = new long[ROUNDS_MOST + 1][CRACK_MOST];
+        /** COST behind so many ROUNDS, in the parts that chances are told in. */
+        private final long[] costs = new long[ROUNDS_MOST + 1];
         private int version = NONE;
         private int roundsFound;
         private int looksFound;
@@ -1601,10 +1639,7 @@ public final class WheelStore {
             startNew();
             long cost = 0;
             for (int round = 0; round < rounds; round++) {
-                cost = cost * EIGHTHS + grow(round);
-                if ((looks >> round & 1) == 1) {
-                    cost += look(round);
-                }
+                cost = cost * EIGHTHS + costIn(round, looks);
             }
             return cost;
         }
@@ -1614,8 +1649,7 @@ public final class WheelStore {
                 version = cells.version();
                 roundsFound = rounds;
                 looksFound = NONE;
-                startNew();
-                tryLooks(0, 0, 0);
+                tryAllLooks(rounds);
             }
             return looksFound;
         }
@@ -1623,18 +1657,32 @@ public final class WheelStore {
         private void startNew() {
             Arrays.fill(chances[0], 0);
             chances[0][0] = 1;
+            costs[0] = 0;
         }
 
-        /** All LOOKS from a ROUND on, behind those that are told; no deeper than ROUNDS there are. */
-        private void tryLooks(int round, int looks, long cost) {
-            if (round >= roundsFound || round >= ROUNDS_MOST) {
-                weigh(looks, cost);
-                return;
+        /**
+         * The ways have ROUND 0 as their highest bit: so a way is as the one ahead of it in all but the
+         * last ROUNDS, and what is known behind the others still holds.
+         */
+        private void tryAllLooks(int rounds) {
+            startNew();
+            int changed = 0;
+            for (int way = 0; way < 1 << rounds; way++) {
+                int looks = mirrored(way, rounds);
+                for (int round = changed; round < rounds; round++) {
+                    costs[round + 1] = costs[round] * EIGHTHS + costIn(round, looks);
+                }
+                weigh(looks, costs[rounds]);
+                changed = rounds - Integer.bitCount(way ^ way + 1);
             }
-            long costUnlooked = cost * EIGHTHS + grow(round);
-            tryLooks(round + 1, looks, costUnlooked);
-            long costLooked = costUnlooked + look(round);
-            tryLooks(round + 1, looks | 1 << round, costLooked);
+        }
+
+        private static int mirrored(int bits, int many) {
+            int other = 0;
+            for (int i = 0; i < many; i++) {
+                other |= (bits >> i & 1) << (many - 1 - i);
+            }
+            return other;
         }
 
         private void weigh(int looks, long cost) {
@@ -1647,6 +1695,11 @@ public final class WheelStore {
         private boolean comesFirst(int looks) {
             int more = Integer.bitCount(looks) - Integer.bitCount(looksFound);
             return more < 0 || more == 0 && looks < looksFound;
+        }
+
+        private long costIn(int round, int looks) {
+            long cost = grow(round);
+            return (looks >> round & 1) == 1 ? cost + look(round) : cost;
         }
 
         /** The crack grows in a ROUND, and bursts where it is enough: what that costs. */
