@@ -1628,6 +1628,7 @@ public final class WheelStore {
 
         Inspection(Cells cells) {
             this.cells = cells;
+            chances[0][0] = 1;
         }
 
         static long partsBehind(int rounds) {
@@ -1636,7 +1637,6 @@ public final class WheelStore {
 
         /** COST in the parts behind the last of the ROUNDS. */
         long costOf(int rounds, int looks) {
-            startNew();
             long cost = 0;
             for (int round = 0; round < rounds; round++) {
                 cost = cost * EIGHTHS + costIn(round, looks);
@@ -1654,18 +1654,11 @@ public final class WheelStore {
             return looksFound;
         }
 
-        private void startNew() {
-            Arrays.fill(chances[0], 0);
-            chances[0][0] = 1;
-            costs[0] = 0;
-        }
-
         /**
          * The ways have ROUND 0 as their highest bit: so a way is as the one ahead of it in all but the
          * last ROUNDS, and what is known behind the others still holds.
          */
         private void tryAllLooks(int rounds) {
-            startNew();
             int changed = 0;
             for (int way = 0; way < 1 << rounds; way++) {
                 int looks = mirrored(way, rounds);

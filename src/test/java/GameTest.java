@@ -9,7 +9,9 @@ public final class GameTest {
         playsAsTheModel();
         everyState();
         deepestGame();
+        eachOfItsOwnWheels();
         playMoves();
+        wheelsOfAPlayToldAgain();
         wrongMoves();
         eightMoves();
         wheelEndsThePlay();
@@ -242,6 +244,67 @@ public final class GameTest {
         compare(new Model(6, 6), x, 3, 12, new int[] {5, 0, 0}, 4);
     }
 
+    /** The same object with other WHEELS, one after another: nothing of the ones ahead may be left. */
+    private static void eachOfItsOwnWheels() {
+        WheelStore x = new WheelStore();
+        int[][] wheels = {{2, 1}, {2, 2}, {3, 2}, {2, 1, 2, 1}, {2, 2, 2, 1}, {2, 1, 2, 2}, {2, 1, 3, 1}, {2, 1, 2, 1, 1, 1},
+            {2, 1, 2, 1, 2, 1}, {2, 1, 2, 1, 2, 2}, {2, 1}, {1, 2}, {4, 1}, {1, 4}, {}, {2, 2}, {6, 6, 1, 1}, {1, 1, 6, 6}, {5, 1}};
+        for (int[] row : wheels) {
+            for (int i = 0; i < row.length; i += 2) {
+                x.wheel(row[i], row[i + 1]);
+            }
+            Model m = new Model(row);
+            Due.promise(14);
+            for (int t = 1; t <= 4; t++) {
+                for (int b = 1; b <= 12; b += 2) {
+                    for (int way = 0; way < 343; way++) {
+                        int[] c = {way / 49, way / 7 % 7, way % 7};
+                        boolean can = c[0] <= m.room[0] && c[1] <= m.room[1] && c[2] <= m.room[2];
+                        Due.due("worst", x.worst(t, b, c[0], c[1], c[2]), can ? m.worst(t, b, c) : -1);
+                    }
+                }
+            }
+            for (int i = 0; i < row.length; i += 2) {
+                x.undo();
+            }
+        }
+    }
+
+    private static void wheelsOfAPlayToldAgain() {
+        Due.promise(19);
+        WheelStore x = new WheelStore();
+        x.wheel(2, 1);
+        x.begin(3, 4, 1, 0, 0);
+        x.move(0, 0);
+        x.undo();
+        x.undo();
+        x.undo();
+        Due.due("worst without WHEELS", x.worst(1, 1, 0, 0, 0), 1);
+        x.redo();
+        x.redo();
+        x.redo();
+        Due.due("the charge is one more", x.play(4), 2);
+        x.undo();
+        x.undo();
+        x.undo();
+        Due.due("worst without WHEELS", x.worst(1, 1, 0, 0, 0), 1);
+        x.redo();
+        x.redo();
+        x.redo();
+        Due.promise(20);
+        Due.due("blame of the call", x.blame(0, 0), 0);
+        Due.due("blame of the give", x.blame(0, 1), 0);
+        Due.promise(18);
+        x.undo();
+        x.undo();
+        x.undo();
+        x.worst(1, 1, 0, 0, 0);
+        x.redo();
+        x.redo();
+        x.redo();
+        Due.due("move", x.move(1, 100), true);
+    }
+
     private static void playMoves() {
         Due.Numbers numbers = new Due.Numbers(18);
         for (int run = 0; run < 150; run++) {
@@ -258,6 +321,7 @@ public final class GameTest {
             int lost = 0;
             int moves = 0;
             state(x, moves, lost, t, b, c);
+            int[][] blames = new int[8][];
             for (int turn = 0; turn < 14; turn++) {
                 int d = numbers.from(-1, 7);
                 int code = turn % 5 == 4 ? numbers.from(-1, 1100) : 100 * numbers.from(0, 3) + 10 * numbers.from(0, 2) + numbers.from(0, 2);
@@ -276,7 +340,14 @@ public final class GameTest {
                     Due.promise(20);
                     Due.due("blame of the call", x.blame(moves, 0), ahead - least);
                     Due.due("blame of the give", x.blame(moves, 1), now + m.worst(t, b, c) - least);
+                    blames[moves] = new int[] {ahead - least, now + m.worst(t, b, c) - least};
                     moves++;
+                }
+                for (int asked = 0; asked < 4 && moves > 0; asked++) {
+                    int n = numbers.below(moves);
+                    int who = numbers.below(2);
+                    Due.promise(20);
+                    Due.due("blame of a MOVE ahead", x.blame(n, who), blames[n][who]);
                 }
                 Due.promise(20);
                 Due.due("blame of none", x.blame(moves, 0), -1);

@@ -10,11 +10,15 @@ public final class StackTest {
         textsThatFail();
         faultStays();
         readsEachByte();
+        eachLetterCounts();
+        nothingIsLeftOfTheTextAhead();
         turnsAsTheModel();
+        eachAnswerIsOfItsOwnSquare();
         wrongPlaces();
         singleRing();
         choosesAsTheModel();
         likeWaysOfFits();
+        eachOfTheThreeCounts();
         opensWhereGapComes();
         Due.close();
     }
@@ -200,6 +204,47 @@ public final class StackTest {
                 Due.due("fault(1) of byte " + sign, x.fault(1), blank ? -1 : at);
             }
         }
+    }
+
+    private static void eachLetterCounts() {
+        Due.promise(5);
+        String text = "ring heavy 1 stiff 2 holds 3 fit 4;ring heavy 1 stiff 2 holds 3 play 4;";
+        for (int at = 0; at < text.length(); at++) {
+            char sign = text.charAt(at);
+            if (sign < 'a' || sign > 'z') {
+                continue;
+            }
+            int start = at;
+            while (start > 0 && text.charAt(start - 1) >= 'a' && text.charAt(start - 1) <= 'z') {
+                start--;
+            }
+            fails(text.substring(0, at) + (sign == 'z' ? 'a' : (char) (sign + 1)) + text.substring(at + 1), 2, start);
+            fails(text.substring(0, at) + text.substring(at + 1), 2, start);
+        }
+    }
+
+    private static void nothingIsLeftOfTheTextAhead() {
+        Due.promise(4);
+        String bare = "ring heavy 1 stiff 2 holds 3;ring heavy 1 stiff 2 holds 3;";
+        WheelStore x = new WheelStore();
+        Due.stack(x, bare);
+        int digest = x.digest();
+        Due.stack(x, "ring heavy 4 stiff 3 holds 7 fit 9;ring heavy 5 stiff 6 holds 8 play 9;ring heavy 1 stiff 1 holds 1 fit 9;");
+        Due.stack(x, bare);
+        Due.due("digest of a text without fits", x.digest(), digest);
+        Due.due("press of a text without fits", x.press(0, 0, 0), 0);
+        Due.stack(x, "ring heavy 4 stiff 3 holds 7 fit 9;ring heavy 5 stiff 6 holds 8 play 9;ring 1");
+        Due.stack(x, bare);
+        Due.due("digest behind a FAULT", x.digest(), digest);
+        Due.promise(10);
+        Due.stack(x, "ring heavy 0 stiff 1 holds 9;ring heavy 0 stiff 1 holds 9 play 5;ring heavy 0 stiff 1 holds 9;");
+        Due.due("a gap behind RING 1", x.most(), -1);
+        Due.stack(x, "ring heavy 0 stiff 1 holds 9;ring heavy 0 stiff 1 holds 9 play 5;");
+        Due.due("no gap behind the last one", x.most(), 30);
+        x.undo();
+        Due.due("a gap behind RING 1", x.most(), -1);
+        Due.stack(x, "ring heavy 0 stiff 1 holds 9;");
+        Due.due("no gap behind the only one", x.most(), 30);
     }
 
     // ---- a model of the STACK: all ways in which FITS touch, each solved by elimination
@@ -411,6 +456,27 @@ public final class StackTest {
         }
     }
 
+    /** A question of one kind is of its own square, whatever was asked ahead of it. */
+    private static void eachAnswerIsOfItsOwnSquare() {
+        WheelStore x = new WheelStore();
+        Due.stack(x, TWO);
+        Due.promise(8);
+        Due.due("stretch at 0", x.stretch(0, 0, 0), -6);
+        Due.due("stretch at 100", x.stretch(0, 100, 0), 24);
+        Due.promise(6);
+        Due.due("press at 0", x.press(0, 0, 0), 24);
+        Due.due("press at 100", x.press(0, 100, 0), 104);
+        Due.promise(7);
+        Due.stack(x, "ring heavy 0 stiff 1 holds 1 fit 5; ring heavy 1 stiff 1 holds 1;");
+        Due.due("gap at 7", x.gap(0, 7, 0), 2);
+        Due.due("gap at 9", x.gap(0, 9, 0), 4);
+        Due.promise(8);
+        Due.due("stretch at 0 behind it", x.stretch(1, 0, 0), 5);
+        Due.due("its lower part", x.stretch(1, 0, 1), 2);
+        x.best(50, 60, 70);
+        Due.due("stretch behind best", x.stretch(1, 0, 0), 5);
+    }
+
     private static void wrongPlaces() {
         WheelStore x = new WheelStore();
         Due.stack(x, TWO);
@@ -560,6 +626,22 @@ public final class StackTest {
         Due.due("chosen without rings", x.chosen(0, 1, 2, 0), -1);
         Due.promise(10);
         Due.due("most without rings", x.most(), -1);
+    }
+
+    /** Asked anew with one of them another. */
+    private static void eachOfTheThreeCounts() {
+        WheelStore x = new WheelStore();
+        Due.stack(x, "ring heavy 0 stiff 1 holds 99; ring heavy 0 stiff 1 holds 99;");
+        int[][] three = {{1, 2, 3}, {4, 2, 3}, {4, 5, 3}, {4, 5, 6}, {1, 5, 6}, {1, 0, 6}, {1, 0, -1}, {-2, 0, -1}, {1, 1, 0},
+            {-5, -6, -7}, {-5, -6, 3}, {-5, -6, -7}, {-5, 3, -7}, {-5, -6, -7}, {3, -6, -7}};
+        int[] due = {0, 1, 2, 0, 0, 1, 1, 1, 2, -1, 2, -1, 1, -1, 0};
+        for (int n = 0; n < three.length; n++) {
+            String what = three[n][0] + ", " + three[n][1] + ", " + three[n][2];
+            Due.promise(12);
+            Due.due("chosen " + what, x.chosen(three[n][0], three[n][1], three[n][2], 0), due[n]);
+            Due.promise(11);
+            Due.due("best " + what, x.best(three[n][0], three[n][1], three[n][2]), due[n] < 0 ? -1 : 30);
+        }
     }
 
     private static void opensWhereGapComes() {
