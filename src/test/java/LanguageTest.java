@@ -51,6 +51,7 @@ public final class LanguageTest {
     private static final Map<String, Set<String>> calls = new HashMap<>();
     private static final Set<String> privateMethods = new HashSet<>();
     private static int classes = 0;
+    private static int deepest = 0;
 
     public static void main(String[] args) throws Exception {
         File source = new File("src/main/java/WheelStore.java");
@@ -69,7 +70,7 @@ public final class LanguageTest {
         for (String fault : faults) {
             System.out.println(fault);
         }
-        System.out.println(classes + " classes, " + calls.size() + " methods, " + faults.size() + " faults");
+        System.out.println(classes + " classes, " + calls.size() + " methods, calls " + deepest + " deep, " + faults.size() + " faults");
         if (!faults.isEmpty() || classes == 0) {
             System.exit(1);
         }
@@ -259,6 +260,7 @@ public final class LanguageTest {
         Map<String, Integer> known = new TreeMap<>();
         for (String name : calls.keySet()) {
             int depth = depth(name, known, new HashSet<>());
+            deepest = Math.max(deepest, depth);
             if (depth > 8) {
                 faults.add(name + " goes " + depth + " deep");
             }
