@@ -3,6 +3,7 @@ final class Due {
     private static int wrong = 0;
     private static int asked = 0;
     private static int promise = 0;
+    private static String words = "";
 
     private Due() {
     }
@@ -12,12 +13,18 @@ final class Due {
         promise = number;
     }
 
+    /** The words of the document by which the answers from here on are due. */
+    static void words(String told) {
+        words = told;
+    }
+
     static void due(String call, long got, long want) {
         asked++;
         if (got != want) {
             wrong++;
             if (wrong <= 40) {
-                System.out.println("promise " + promise + ": " + call + " answered " + got + ", due is " + want);
+                String by = words.isEmpty() ? "" : " (" + words + ")";
+                System.out.println("promise " + promise + ": " + call + " answered " + got + ", due is " + want + by);
             }
         }
     }

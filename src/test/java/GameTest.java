@@ -218,6 +218,15 @@ public final class GameTest {
                 }
             }
         }
+        Model three = new Model(2, 1, 1, 2, 2, 2);
+        x = three.store();
+        for (int t = 1; t <= 8; t++) {
+            for (int b = 0; b <= 12; b++) {
+                for (int way = 0; way < 18; way++) {
+                    compare(three, x, t, b, new int[] {way / 6, way / 3 % 2, way % 3}, (t + b + way) % 7);
+                }
+            }
+        }
     }
 
     private static void deepestGame() {
@@ -248,7 +257,8 @@ public final class GameTest {
     private static void eachOfItsOwnWheels() {
         WheelStore x = new WheelStore();
         int[][] wheels = {{2, 1}, {2, 2}, {3, 2}, {2, 1, 2, 1}, {2, 2, 2, 1}, {2, 1, 2, 2}, {2, 1, 3, 1}, {2, 1, 2, 1, 1, 1},
-            {2, 1, 2, 1, 2, 1}, {2, 1, 2, 1, 2, 2}, {2, 1}, {1, 2}, {4, 1}, {1, 4}, {}, {2, 2}, {6, 6, 1, 1}, {1, 1, 6, 6}, {5, 1}};
+            {2, 1, 2, 1, 2, 1}, {2, 1, 2, 1, 2, 2}, {2, 1}, {1, 2}, {4, 1}, {1, 4}, {}, {2, 2}, {6, 6, 1, 1}, {1, 1, 6, 6}, {5, 1},
+            {2, 1, 3, 1}, {2, 2, 2, 1}, {5, 6}, {6, 1}, {2, 1, 6, 3}, {2, 2, 0, 3}};
         for (int[] row : wheels) {
             for (int i = 0; i < row.length; i += 2) {
                 x.wheel(row[i], row[i + 1]);
