@@ -1095,17 +1095,21 @@ public final class WheelStore {
                 return NONE;
             }
             for (int speed = 0; speed <= FASTEST; speed++) {
-                settle(speed * speed);
-                if (!holdsTogether()) {
+                settleBlock(0, count - 1, speed * speed);
+                if (!holdsAsOneBlock()) {
                     return speed - 1;
                 }
             }
             return FASTEST;
         }
 
-        private boolean holdsTogether() {
+        /**
+         * No GAP is above 0 only where all RINGS are one block. They are one just where each PRESS in it is
+         * 0 or more, as that is an answer then, and there is one alone.
+         */
+        private boolean holdsAsOneBlock() {
             for (int ring = 0; ring < count; ring++) {
-                if (upper[ring] > holds[ring] * lower[ring] || gaps[ring] > 0) {
+                if (upper[ring] > holds[ring] * lower[ring] || pressed[ring] < 0) {
                     return false;
                 }
             }
