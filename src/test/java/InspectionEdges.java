@@ -237,5 +237,13 @@ final class InspectionEdges {
         Due.due("none is the fewest", x.looks(2), 0);
         x.costs(2, 2, 5);
         Due.due("one is of less cost", x.looks(2), 1);
+        // ROUNDS 0, 3, 4, 6 cost what 0, 1, 5, 6 do: the least number is not the one that looks earliest
+        x.cracks(3, 2, 3, 2);
+        x.costs(267, 678, 2728);
+        for (int looks : new int[] {89, 99}) {
+            Due.due("cost 8, " + looks, x.cost(8, looks, 0), 5758574563L);
+            Due.due("cost 8, " + looks + ", lower", x.cost(8, looks, 1), 1048576);
+        }
+        Due.due("four ROUNDS of eight: the least number", x.looks(8), 89);
     }
 }
